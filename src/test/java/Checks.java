@@ -24,7 +24,7 @@ final class Checks {
         return reader;
     }
 
-    /** To an empty tape. The odd piece comes first: only so can the tape be filled to its last byte. */
+    /** For an empty tape. The odd piece comes first: only so can the tape be filled to its last byte. */
     static void put(DecimalReader reader, byte[] text) {
         int odd = text.length % 20;
         if (odd > 0) {
@@ -47,23 +47,6 @@ final class Checks {
             five[i / 4] = five[i / 4] << 8 | b;
         }
         reader.feed(five[0], five[1], five[2], five[3], five[4]);
-    }
-
-    static int length(DecimalReader reader) {
-        int longest = 0;
-        for (int n = 0; n <= 8192; n++) {
-            longest = Math.max(longest, keepsAtLeast(reader, n) ? n : 0);
-        }
-        return longest;
-    }
-
-    // end cuts what it keeps, so this is for tapes that are empty when the test is right.
-    private static boolean keepsAtLeast(DecimalReader reader, int n) {
-        try {
-            return reader.end(n) == n;
-        } catch (IllegalArgumentException e) {
-            return false;
-        }
     }
 
     static String outcome(Call call) {
@@ -95,6 +78,10 @@ final class Checks {
 
     void dueFloat(String text, int want) {
         due("parseFloat of '" + text + "'", readerOf(text)::parseFloat, want);
+    }
+
+    void dueEmpty(String what, DecimalReader reader) {
+        due("end(1) behind " + what, () -> reader.end(1), ILLEGAL);
     }
 
     private static String shortened(String what) {

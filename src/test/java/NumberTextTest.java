@@ -47,23 +47,25 @@ public final class NumberTextTest {
     }
 
     private static void wrongText(Checks checks, String text) {
-        DecimalReader reader = Checks.readerOf(text);
-        checks.due("parse of wrong '" + text + "'", reader::parse, Checks.UNSUPPORTED);
-        checks.due("the tape behind '" + text + "'", () -> Checks.length(reader), 0);
-        Checks.put(reader, text);
-        checks.due("parseFloat of wrong '" + text + "'", reader::parseFloat, Checks.UNSUPPORTED);
-        checks.due("the tape behind '" + text + "'", () -> Checks.length(reader), 0);
-        Checks.put(reader, "2.5");
-        checks.due("a right text behind '" + text + "'", reader::parse, Double.doubleToLongBits(2.5));
+        bothAre(checks, text, Checks.UNSUPPORTED, Checks.UNSUPPORTED);
     }
 
     private static void bothAsTheOracle(Checks checks, String text) {
-        DecimalReader reader = Checks.readerOf(text);
-        checks.due("parse of '" + text + "'", reader::parse, Oracle.ofDouble(text));
-        checks.due("the tape behind '" + text + "'", () -> Checks.length(reader), 0);
-        Checks.put(reader, text);
-        checks.due("parseFloat of '" + text + "'", reader::parseFloat, Oracle.ofFloat(text));
-        checks.due("the tape behind '" + text + "'", () -> Checks.length(reader), 0);
+        bothAre(checks, text, Oracle.ofDouble(text), Oracle.ofFloat(text));
+    }
+
+    // An object for each call: a long text alone takes most of the 512 calls of one.
+    private static void bothAre(Checks checks, String text, String wantDouble, String wantFloat) {
+        DecimalReader first = Checks.readerOf(text);
+        checks.due("parse of '" + text + "'", first::parse, wantDouble);
+        checks.dueEmpty("parse of '" + text + "'", first);
+        Checks.put(first, "2.5");
+        checks.due("parse behind '" + text + "'", first::parse, Double.doubleToLongBits(2.5));
+        DecimalReader second = Checks.readerOf(text);
+        checks.due("parseFloat of '" + text + "'", second::parseFloat, wantFloat);
+        checks.dueEmpty("parseFloat of '" + text + "'", second);
+        Checks.put(second, "2.5");
+        checks.due("parseFloat behind '" + text + "'", second::parseFloat, Float.floatToIntBits(2.5f));
     }
 
     private static void eachByteAroundADigit(Checks checks) {
