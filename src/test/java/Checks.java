@@ -8,10 +8,16 @@ final class Checks {
 
     private int asked = 0;
     private int wrong = 0;
+    private String about = "";
 
     /** A call whose answer, or whose exception, is looked at. */
     interface Call {
         long answer();
+    }
+
+    /** The sentence of the document that the next calls put to the test. */
+    void sentence(String said) {
+        about = "\"" + said + "\" - ";
     }
 
     static DecimalReader readerOf(String text) {
@@ -67,7 +73,7 @@ final class Checks {
         if (!got.equals(want)) {
             wrong++;
             if (wrong <= 50) {
-                System.out.println(shortened(what) + ": " + got + ", due is " + want);
+                System.out.println(about + shortened(what) + ": " + got + ", due is " + want);
             }
         }
     }
@@ -78,6 +84,25 @@ final class Checks {
 
     void dueFloat(String text, int want) {
         due("parseFloat of '" + text + "'", readerOf(text)::parseFloat, want);
+    }
+
+    /** Both readings of a text, each of them behind which the tape is empty. */
+    void dueBoth(String text, String wantDouble, String wantFloat) {
+        DecimalReader first = readerOf(text);
+        due("parse of '" + text + "'", first::parse, wantDouble);
+        dueEmpty("parse of '" + text + "'", first);
+        DecimalReader second = readerOf(text);
+        due("parseFloat of '" + text + "'", second::parseFloat, wantFloat);
+        dueEmpty("parseFloat of '" + text + "'", second);
+    }
+
+    void dueNumber(String text, double wantDouble, float wantFloat) {
+        dueBoth(text, Long.toString(Double.doubleToLongBits(wantDouble)),
+            Integer.toString(Float.floatToIntBits(wantFloat)));
+    }
+
+    void dueRefused(String text) {
+        dueBoth(text, UNSUPPORTED, UNSUPPORTED);
     }
 
     void dueEmpty(String what, DecimalReader reader) {
