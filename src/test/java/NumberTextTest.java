@@ -118,15 +118,8 @@ public final class NumberTextTest {
                 text.append(parts[random.nextInt(parts.length)]);
             }
             String whole = text.toString();
-            if (exponentIsSmall(whole)) {
-                checks.due("parse of '" + whole + "'", Checks.readerOf(whole)::parse, Oracle.ofDouble(whole));
-                checks.due("parseFloat of '" + whole + "'", Checks.readerOf(whole)::parseFloat, Oracle.ofFloat(whole));
-            }
+            checks.due("parse of '" + whole + "'", Checks.readerOf(whole)::parse, Oracle.ofDouble(whole));
+            checks.due("parseFloat of '" + whole + "'", Checks.readerOf(whole)::parseFloat, Oracle.ofFloat(whole));
         }
-    }
-
-    // The oracle makes the power itself: longer exponents are for ParseTest and ParseFloatTest.
-    private static boolean exponentIsSmall(String text) {
-        return !text.matches("(?s).*[eEpP][+-]?[0-9]{5,}.*");
     }
 }

@@ -70,13 +70,19 @@ final class Oracle {
         if (digits.isEmpty()) {
             return null;
         }
-        int exponent = parts.group(3) == null ? 0 : Integer.parseInt(parts.group(3));
+        int exponent = parts.group(3) == null ? 0 : exponentOf(parts.group(3));
         exponent -= rootsADigit * behind.length();
         BigInteger whole = new BigInteger(digits, base);
         BigInteger power = BigInteger.valueOf(root).pow(Math.abs(exponent));
         return exponent >= 0
             ? new BigInteger[] {whole.multiply(power), BigInteger.ONE}
             : new BigInteger[] {whole, power};
+    }
+
+    // No power so far off is brought back by 8192 digits, 4 powers of two each, so farther ones say the same.
+    private static int exponentOf(String digits) {
+        BigInteger farthest = BigInteger.valueOf(100000);
+        return new BigInteger(digits).min(farthest).max(farthest.negate()).intValueExact();
     }
 
     private static long round(BigInteger over, BigInteger under, int p, int e, int m, long infinity) {
